@@ -297,8 +297,9 @@ public final class PacketGuard {
 
     /** Sixteen words: 0 .. 3 the key for blocks, 4 .. 7 the counter, 8 .. 15 the key for seals. */
     private static final class Keys {
+        static final int COUNTER = 4;
+
         private static final int WORDS = 16;
-        private static final int COUNTER = 4;
         private static final int COUNTER_LAST = 7;
 
         private final int[] words = new int[WORDS];
@@ -474,7 +475,7 @@ public final class PacketGuard {
             for (int i = KEY_WORDS; i < ALL_WORDS; i++) {
                 int x = words[i - 1];
                 if (i % KEY_WORDS == 0) {
-                    x = substituteWord(Integer.rotateLeft(x, 8)) ^ (power << 24);
+                    x = substituteWord((x << 8) | (x >>> 24)) ^ (power << 24);
                     power = twice(power);
                 }
                 words[i] = words[i - KEY_WORDS] ^ x;
@@ -667,21 +668,24 @@ public final class PacketGuard {
         private void spreadRow() {
             for (int t = ROW_WORDS; t < ROUNDS; t++) {
                 int x = w[t - 15];
-                int s = Integer.rotateRight(x, 7) ^ Integer.rotateRight(x, 18) ^ (x >>> 3);
+                int s = ror(x, 7) ^ ror(x, 18) ^ (x >>> 3);
                 int y = w[t - 2];
-                int r = Integer.rotateRight(y, 17) ^ Integer.rotateRight(y, 19) ^ (y >>> 10);
+                int r = ror(y, 17) ^ ror(y, 19) ^ (y >>> 10);
                 w[t] = w[t - 16] + s + w[t - 7] + r;
             }
         }
 
         private static int turnedE(int e) {
-            return Integer.rotateRight(e, 6) ^ Integer.rotateRight(e, 11)
-                    ^ Integer.rotateRight(e, 25);
+            return ror(e, 6) ^ ror(e, 11) ^ ror(e, 25);
         }
 
         private static int turnedA(int a) {
-            return Integer.rotateRight(a, 2) ^ Integer.rotateRight(a, 13)
-                    ^ Integer.rotateRight(a, 22);
+            return ror(a, 2) ^ ror(a, 13) ^ ror(a, 22);
+        }
+
+        /** Turns x right by n bits, n being 1 .. 31. */
+        private static int ror(int x, int n) {
+            return (x >>> n) | (x << (32 - n));
         }
     }
 }

@@ -246,9 +246,12 @@ public final class PromisesTest {
         due("6016 on the way, send", t.send(0), Twin.STATE);
         due("6016 on the way, forge", t.forge(12, 4), Twin.STATE);
         due("nothing was counted", t.number(0), 124);
-        t.link(16);
+        t.link(15);
+        due("6001 on the way, send", t.send(0), Twin.STATE);
+        due("6001 on the way, forge", t.forge(12, 4), Twin.STATE);
+        t.link(1);
         due("6000 on the way", t.send(0), 64);
-        due("6000 on the way, send", t.send(0), Twin.STATE);
+        due("6048 on the way, send", t.send(0), Twin.STATE);
         due("on the way", t.onTheWay(), 6000);
         t.look();
     }
@@ -592,16 +595,17 @@ public final class PromisesTest {
         t.look();
         t.link(100);
         due("begun: take", t.take(), 1);
-        // The next keys are of zeros too, and none wait for the receiver.
+        // No keys wait for the receiver's next packet.
+        t.send(0);
+        t.link(48);
+        due("begun: take of the next", t.take(), 0);
+        // The next keys are of zeros too.
         t.turn(0);
         t.send(0);
         due("begun: next keys of zeros", t.octet(0), 0x66);
         t.turn(1);
         t.link(48);
         due("begun: take, turned", t.take(), 0);
-        t.send(0);
-        t.link(48);
-        due("begun: take of the next", t.take(), 0);
     }
 
     private static void counterWraps() {
