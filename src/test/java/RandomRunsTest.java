@@ -2,7 +2,7 @@ import java.util.Map;
 import java.util.Random;
 import java.util.TreeMap;
 
-/** Runs of 512 calls drawn from written seeds, each answer compared with the model's. */
+/** Runs of 512 calls or some more, drawn from written seeds, compared with the model. */
 public final class RandomRunsTest {
     private static final int RUNS = 600;
     private static final int CALLS = 512;
