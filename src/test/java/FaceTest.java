@@ -5,7 +5,9 @@ import java.lang.reflect.Method;
 import java.lang.reflect.Modifier;
 import java.nio.file.Files;
 import java.nio.file.Path;
+import java.util.ArrayList;
 import java.util.Arrays;
+import java.util.List;
 import java.util.Set;
 import java.util.TreeSet;
 import java.util.regex.Matcher;
@@ -34,6 +36,7 @@ public final class FaceTest {
         CHECK.due("constructor's parameters", constructors[0].getParameterCount(), 0);
         CHECK.due("constructor's modifiers", constructors[0].getModifiers(), Modifier.PUBLIC);
         nestedClasses();
+        sizes();
         source(Files.readString(Path.of(SOURCE)));
         CHECK.end("FaceTest");
     }
@@ -97,7 +100,34 @@ public final class FaceTest {
         }
     }
 
+    /** Rules 5 and 11: kinds of constants, numbers of classes, of fields and of parameters. */
+    private static void sizes() {
+        Class<?>[] nested = PacketGuard.class.getDeclaredClasses();
+        CHECK.holds("at most twelve classes", nested.length + 1 <= 12);
+        List<Class<?>> all = new ArrayList<>(List.of(nested));
+        all.add(PacketGuard.class);
+        for (Class<?> c : all) {
+            int fields = 0;
+            for (Field f : c.getDeclaredFields()) {
+                fields += Modifier.isStatic(f.getModifiers()) ? 0 : 1;
+                CHECK.holds(f + " is a constant of a plain kind",
+                        !Modifier.isStatic(f.getModifiers()) || isPlain(f));
+            }
+            CHECK.holds(c + " has at most twenty fields", fields <= 20);
+            for (Method m : c.getDeclaredMethods()) {
+                CHECK.holds(m + " has at most seven parameters", m.getParameterCount() <= 7);
+            }
+        }
+    }
+
+    private static boolean isPlain(Field f) {
+        return Modifier.isFinal(f.getModifiers())
+                && (f.getType() == int.class || f.getType() == int[].class);
+    }
+
     private static void source(String text) {
+        CHECK.holds("the source is of plain characters",
+                text.chars().allMatch(c -> c == '\n' || c >= ' ' && c < 127));
         String code = text.replaceAll("(?s)/\\*.*?\\*/", "").replaceAll("//[^\n]*", "");
         String[] banned = {"import", "package", "try", "catch", "finally", "synchronized", "assert",
             "->", "::", "System", "Random", "Thread", "Object", "while", "protected"};

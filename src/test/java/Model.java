@@ -161,6 +161,20 @@ final class Model {
         return fault != 0;
     }
 
+    void setNumbers(int sent, int opened) {
+        numbers[0] = sent;
+        numbers[1] = opened;
+    }
+
+    byte[] way() {
+        return way.clone();
+    }
+
+    /** Bytes enciphered, or deciphered, from the first block of keys that are all 0 on. */
+    static byte[] streamOfZeroKeys(byte[] bytes) {
+        return stream(new int[16], bytes);
+    }
+
     /** The first packet of keys that are all 0, with its seal. */
     static byte[] packetOfZeroKeys(byte[] plain) {
         int[] zeros = new int[16];
@@ -206,7 +220,7 @@ final class Model {
         }
     }
 
-    private static byte[] seal(int[] keys, int number, byte[] plain) {
+    static byte[] seal(int[] keys, int number, byte[] plain) {
         try {
             Mac mac = Mac.getInstance("HmacSHA256");
             mac.init(new SecretKeySpec(bytes(keys, 8, 16), "HmacSHA256"));

@@ -1,3 +1,6 @@
+import java.lang.reflect.Field;
+import java.util.ArrayList;
+import java.util.List;
 import java.util.function.IntSupplier;
 
 /**
@@ -15,6 +18,7 @@ final class Twin {
     private final PacketGuard guard = new PacketGuard();
     private final Check check;
     private final String name;
+    private final List<String> told = new ArrayList<>();
     private int calls;
 
     Twin(Check check, String name) {
@@ -102,6 +106,36 @@ final class Twin {
         return calls;
     }
 
+    /** What each call from a first one on answered, in words. */
+    List<String> toldFrom(int call) {
+        return told.subList(call, told.size());
+    }
+
+    /** An answer of this run that is written out in the test. */
+    void due(String what, long got, long want) {
+        check.due(name + ", behind call " + calls + ": " + what, got, want);
+    }
+
+    /** Puts the sides' next numbers where no 512 calls could bring them. */
+    void setNumbers(int sent, int opened) {
+        setNumber("sender", sent);
+        setNumber("receiver", opened);
+        model.setNumbers(sent, opened);
+    }
+
+    private void setNumber(String side, int number) {
+        try {
+            Field sideField = PacketGuard.class.getDeclaredField(side);
+            sideField.setAccessible(true);
+            Object inside = sideField.get(guard);
+            Field numberField = inside.getClass().getDeclaredField("nextNumber");
+            numberField.setAccessible(true);
+            numberField.setInt(inside, number);
+        } catch (ReflectiveOperationException e) {
+            throw new AssertionError(e);
+        }
+    }
+
     /** Compares all that can be seen without a change. */
     void look() {
         number(0);
@@ -113,6 +147,24 @@ final class Twin {
         int opened = model.openedLength();
         for (int i = 0; i <= opened; i++) {
             got(i);
+        }
+    }
+
+    /** Compares enough of what can be seen, by some hundred calls at most. */
+    void glance() {
+        number(0);
+        number(1);
+        int many = (int) onTheWay();
+        for (int i = 0; i <= many; i++) {
+            if (i < 4 || i >= many - 50) {
+                octet(i);
+            }
+        }
+        int opened = model.openedLength();
+        for (int i = 0; i <= opened; i++) {
+            if (i < 4 || i >= opened - 4) {
+                got(i);
+            }
         }
     }
 
@@ -138,6 +190,7 @@ final class Twin {
         long got = answer(mine);
         long want = answer(due);
         check.due(name + ", call " + calls + ": " + call, got, want);
+        told.add(call + " " + text(got));
         return got;
     }
 
